@@ -111,7 +111,7 @@ public final class LanguageTest {
     }
 
     private static void lengths(String[] lines) {
-        Pattern head = Pattern.compile("(    |        )(?!if|for|while|switch|else|return|\\}).*\\) \\{");
+        Pattern head = Pattern.compile("(    |        )(?!if|for|while|switch|else|return|\\})\\S.*\\) \\{");
         int methods = 0;
         for (int i = 0; i < lines.length; i++) {
             Matcher m = head.matcher(lines[i]);
