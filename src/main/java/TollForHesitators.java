@@ -1343,13 +1343,15 @@ public final class TollForHesitators {
         final int[] numbers = new int[6];
         int fault = NONE;
         int items = 0;
-        private Shelf text = null;
+        private long[] letters = new long[0];
+        private int length = 0;
         private int at = 0;
         private int number = 0;
 
         /** Tells the text over a ROAD: whether it stands; else fault is its place, and the ROAD is spoilt. */
         boolean readAll(Shelf row, Road over) {
-            text = row;
+            letters = row.elements;
+            length = row.length;
             at = 0;
             items = 0;
             fault = NONE;
@@ -1359,7 +1361,7 @@ public final class TollForHesitators {
                     return false;
                 }
                 items++;
-                if (at >= row.length) {
+                if (at >= length) {
                     return true;
                 }
                 if (!sign(';')) {
@@ -1489,7 +1491,7 @@ public final class TollForHesitators {
 
         /** The element, 0 (which is none of the signs) behind the last. */
         private int letter(int i) {
-            return text == null ? 0 : text.intAt(i);
+            return i < 0 || i >= length || i >= letters.length ? 0 : (int) letters[i];
         }
 
         private boolean fail(int place) {

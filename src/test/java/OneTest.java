@@ -31,6 +31,10 @@ public final class OneTest {
             DUE.is("BURDEN of " + c, x.looks(c, 2), c == 1 || c == 6 ? 8 : 9);
             DUE.is("COURAGE of " + c, x.looks(c, 3), 11 + c);
         }
+        for (int c = 0; c <= 6; c++) {
+            x.tell(c, 0, 0);
+            DUE.is("no COURAGE of " + c, x.looks(c, 3), 0);
+        }
         DUE.is("looks -1", x.looks(7, 4), -1);
         DUE.is("looks -1", x.looks(-1, 0), -1);
         DUE.is("looks -5", x.looks(0, 4), -5);
@@ -114,6 +118,8 @@ public final class OneTest {
         DUE.is("in FOG", x.slow(3, 3), 3);
         x.comer(2, 0, 3, 2, 0, 0);
         DUE.is("one LED, nobody ahead", x.slow(4, 0), 4);
+        x.tell(4, 0, 0);
+        DUE.is("one LED, nobody ahead and no NERVE", x.slow(4, 0), 1);
         x.comer(3, 0, 4, 2, 0, 0);
         DUE.is("one THROWN, nobody about", x.slow(5, 0), -1);
         DUE.is("in FOG", x.slow(5, 1), 4);
@@ -268,6 +274,11 @@ public final class OneTest {
         }
         int[][] wrong = {{10, 0}, {-1, 0}, {0, 2}, {0, -1}};
         for (int[] w : wrong) {
+            Due.fill(x, 4, 2, w[0], w[1], 5, 1);
+            DUE.is("fits -6, the first", x.fits(4, 2, 0), -6);
+            DUE.is("next -16, the first", x.next(4, 2, 0), -16);
+            DUE.is("none of them told", x.fits(4, 0, 0), nerves(0, 30));
+            counts[6] += 2;
             Due.fill(x, 4, 2, 5, 1, w[0], w[1]);
             DUE.is("ahead of the wrong two", x.fits(4, 1, 0), nerves(0, 10));
             DUE.is("fits -6", x.fits(4, 2, 0), -6);
@@ -292,17 +303,21 @@ public final class OneTest {
         DUE.is("of 10 alone", x.next(0, 5, 0), -1);
         Due.fill(x, 1, 2, 0, 0, 0, 1);
         DUE.is("of none", x.next(1, 2, 0), -1);
+        // of 0 to 3 a FOG of 1 leaves two and two
+        x.tell(0, 2, 0);
+        Due.fill(x, 1, 2, 3, 1);
+        x.comer(0, 0, 0, 8, 0, 0);
+        DUE.is("of 0 to 3", x.next(1, 1, 1), 1);
         x.comer(1, 0, 0, 1, 5, 0);
-        DUE.is("a BLIND one: the least of FOGS that tell nothing", x.next(0, 0, 1), 0);
+        DUE.is("a BLIND one: the least of FOGS that tell nothing", x.next(0, 0, 2), 0);
         Due.fill(x, 2, 2, 3, 1);
-        DUE.is("the same", x.next(2, 1, 1), 0);
-        DUE.is("two that no FOG parts", x.tell(1, 2, 24) + x.next(0, 0, 1), 0);
+        DUE.is("the same", x.next(2, 1, 2), 0);
         Due.fill(x, 2, 2, 3, 0);
-        x.tell(1, 2, 19);
-        DUE.is("29 and 30", x.fits(2, 1, 1), 3 << 29);
-        DUE.is("29 and 30, which nothing parts", x.next(2, 1, 1), 0);
-        x.tell(1, 2, 20);
-        DUE.is("30 alone", x.next(2, 1, 1), -1);
+        x.tell(2, 2, 19);
+        DUE.is("29 and 30", x.fits(2, 1, 2), 3 << 29);
+        DUE.is("29 and 30, which nothing parts", x.next(2, 1, 2), 0);
+        x.tell(2, 2, 20);
+        DUE.is("30 alone", x.next(2, 1, 2), -1);
         DUE.is("nothing refused", x.status(11) + x.status(16), 0);
     }
 
@@ -333,6 +348,7 @@ public final class OneTest {
         DUE.is("leader -11", x.leader(-1), -11);
         DUE.is("counted as -1", x.status(11), 3);
         DUE.is("nothing is changed", x.comerOf(1, 5), 5);
+        DUE.is("led by the first", x.leader(1), 0);
     }
 
     private static void leaderKinds() {
@@ -351,6 +367,10 @@ public final class OneTest {
         DUE.is("that one pays: SEEN at the eighth look", x.leader(0), 2);
         x.tell(2, 0, 6);
         DUE.is("at the eighth the last", x.leader(0), 3);
+        x.ask(0, 20);
+        x.tell(1, 0, 19);
+        x.tell(2, 0, 20);
+        DUE.is("not at all is last, also of twenty looks", x.leader(0), 2);
 
         x = new TollForHesitators();
         // asks; just bears his only look

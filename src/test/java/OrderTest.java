@@ -202,6 +202,13 @@ public final class OrderTest {
         x.ask(1, 9);
         isBest(x, 10, 1, 0, 1, 2);
         x.ask(1, 0);
+        // THROWN needs 3 just behind him
+        x = new TollForHesitators();
+        x.comer(3, 0, 0, 8, 0, 5);
+        x.comer(1, 0, 1, 8, 0, 5);
+        x.comer(1, 0, 1, 8, 0, 5);
+        x.comer(1, 0, 2, 8, 0, 5);
+        isBest(x, 0, 0, 0, 3, 1, 2);
         // dear, but nobody turns BACK: 0 and 1 pay 99 each, so that 2 is led
         x = new TollForHesitators();
         x.ask(2, 99);
@@ -266,6 +273,9 @@ public final class OrderTest {
         x.tell(0, 0, 9);
         x.tell(1, 0, 0);
         x.ask(3, 2);
+        pushed(x, 2, 2);
+        // by numbers, whatever ORDER was told ahead
+        of(x, row(1, 0), 1, 1, 0, 5, 2, 0);
         pushed(x, 2, 2);
         // just ahead of one LED, pushed or not
         x = new TollForHesitators();

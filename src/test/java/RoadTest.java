@@ -137,6 +137,13 @@ public final class RoadTest {
         DUE.is("KIND", x.comerOf(2, 0), 3);
         DUE.is("DOUBT", x.comerOf(2, 6), 4);
         DUE.is("DOUBT of one who was there", x.comerOf(1, 6), 3);
+        DUE.is("the least", read(x, "way 1;fog 0;toll 1;push 1;doubt 0 0;comer 0 0 0 1 0 0"), 6);
+        DUE.is("WAY, FOG, TOLL, PUSH", 1000 * x.status(1) + 100 * x.status(2) + 10 * x.status(3) + x.status(4), 1011);
+        DUE.is("DOUBT", x.comerOf(0, 6), 0);
+        DUE.is("the most", read(x, "way 20;fog 9;toll 99;push 99;doubt 3 30;comer 6 9 30 9 9 99"), 6);
+        DUE.is("WAY, FOG", 10 * x.status(1) + x.status(2), 209);
+        DUE.is("TOLL, PUSH", 100 * x.status(3) + x.status(4), 9999);
+        DUE.is("DOUBT", x.comerOf(3, 6), 30);
         DUE.is("nothing refused", x.status(16), 0);
     }
 

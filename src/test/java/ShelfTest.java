@@ -53,6 +53,10 @@ public final class ShelfTest {
         DUE.is("row anew", x.row(7, 1, 160), 1);
         DUE.is("all is 0 again", x.element(7, 159), 0);
         DUE.is("and of the new sort", x.holds(7), 101);
+        x.set(7, 0, 9);
+        DUE.is("row of none", x.row(7, 1, 0), 1);
+        DUE.is("it has no element", x.set(7, 0, 9), -5);
+        DUE.is("it has no element", x.element(7, 0), 0);
         DUE.is("row -1 below", x.row(-1, 0, 0), -1);
         DUE.is("row -1 above", x.row(8, 0, 0), -1);
         DUE.is("row -4", x.row(0, 0, -1), -4);
@@ -64,7 +68,7 @@ public final class ShelfTest {
         DUE.is("row: -6 before -7", x.row(0, 4, 161), -6);
         DUE.is("refused -1", x.status(11), 3);
         DUE.is("refused -4", x.status(14), 2);
-        DUE.is("refused -5", x.status(15), 1);
+        DUE.is("refused -5", x.status(15), 2);
         DUE.is("refused -6", x.status(16), 3);
         DUE.is("refused -7", x.status(17), 1);
         DUE.is("a refused row changes nothing", x.holds(0), 100);
