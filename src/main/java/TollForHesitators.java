@@ -56,9 +56,8 @@ public final class TollForHesitators {
     private final Order order;
     private final Order trial;
     private final Order found;
+    private final Moves moves;
     private final int[] refused;
-    private final int[] bodies;
-    private int bodiesRun;
     private int latestFault;
     private boolean imaged;
 
@@ -74,8 +73,8 @@ public final class TollForHesitators {
         order = new Order(road);
         trial = new Order(road);
         found = new Order(road);
+        moves = new Moves();
         refused = new int[ROOM + 1];
-        bodies = new int[MOST_TRACE];
         latestFault = NONE;
     }
 
@@ -248,7 +247,7 @@ public final class TollForHesitators {
         }
         switch (what) {
             case 0:
-                return one.kind();
+                return one.kind;
             case 1:
                 return one.a;
             case 2:
@@ -558,25 +557,11 @@ public final class TollForHesitators {
     // ---- MOVES, THE IMAGE, STATUS
 
     public int act(int comer, int move, int x) {
-        bodiesRun = 0;
-        Comer one = road.at(comer);
-        if (one == null) {
-            return 0;
-        }
-        switch (move) {
-            case 0:
-                return one.walk(x, this);
-            case 1:
-                return one.look(x, this);
-            case 2:
-                return one.stop(x, this);
-            default:
-                return 0;
-        }
+        return moves.start(road.at(comer), move, x);
     }
 
     public int trace(int i) {
-        return i < 0 || i >= bodiesRun || i >= bodies.length ? NONE : bodies[i];
+        return moves.keptAt(i);
     }
 
     public int image() {
@@ -620,7 +605,7 @@ public final class TollForHesitators {
             case 8:
                 return road.seed;
             case 9:
-                return bodiesRun;
+                return moves.ran;
             default:
                 return within(what, LOWER + NOBODY, LOWER + ROOM) ? refused[what - LOWER] : NONE;
         }
@@ -726,217 +711,160 @@ public final class TollForHesitators {
         return slow;
     }
 
-    private void began(int body) {
-        if (bodiesRun >= 0 && bodiesRun < bodies.length) {
-            bodies[bodiesRun] = body;
-        }
-        bodiesRun++;
-    }
+    // ---- COMERS by KINDS: what stays of one as it is
 
-    // ---- COMERS by KINDS: what stays of one, and the bodies of his MOVES
-    // (no @Override: it is not in the library that LANGUAGE.md leaves)
+    private static final class Comer {
+        private static final int[] ABOVE = {NONE, COMER, COMER, LED, COMER, DOUBTER, BLIND};
 
-    private static class Comer {
         final int number;
+        final int kind;
         final int a;
         final int pace;
         final int load;
 
-        Comer(int number, int a, int pace, int load) {
+        Comer(int number, int kind, int a, int pace, int load) {
             this.number = number;
+            this.kind = kind;
             this.a = a;
             this.pace = pace;
             this.load = load;
         }
 
-        int kind() {
-            return COMER;
+        static int above(int kind) {
+            return kind < 0 || kind >= ABOVE.length ? NONE : ABOVE[kind];
         }
 
-        final boolean isOf(int kind) {
-            switch (kind) {
-                case COMER:
-                    return true;
-                case BLIND:
-                    return this instanceof Blind;
-                case LED:
-                    return this instanceof Led;
-                case THROWN:
-                    return this instanceof Thrown;
-                case DOUBTER:
-                    return this instanceof Doubter;
-                case STANDER:
-                    return this instanceof Stander;
-                case RUNNER:
-                    return this instanceof Runner;
-                default:
-                    return false;
+        /** Whether he is of the KIND, or of one under it. */
+        boolean isOf(int wanted) {
+            int of = kind;
+            for (int up = 0; up < ABOVE.length && of != wanted; up++) {
+                of = above(of);
             }
+            return of == wanted;
         }
 
         int looksOn(int way) {
-            return pace < 1 ? way : (way + pace - 1) / pace;
+            return kind == RUNNER || pace < 1 ? 1 : (way + pace - 1) / pace;
         }
 
         int step() {
-            return 1;
+            switch (kind) {
+                case BLIND:
+                    return 0;
+                case RUNNER:
+                    return a;
+                case DOUBTER:
+                    return 2;
+                case STANDER:
+                    return 2 + a;
+                default:
+                    return 1;
+            }
         }
 
         int burden(int fog) {
-            return fog + load;
+            return isOf(BLIND) ? 2 * load : fog + load;
         }
 
         /** ahead, behind: the NERVES of those just there; 0 for nobody. */
         int courage(int nerve, int ahead, int behind) {
-            return nerve;
-        }
-
-        int walk(int x, TollForHesitators gate) {
-            gate.began(10);
-            return x + number;
-        }
-
-        int look(int x, TollForHesitators gate) {
-            gate.began(11);
-            return walk(x, gate) * 2;
-        }
-
-        int stop(int x, TollForHesitators gate) {
-            gate.began(12);
-            int looked = look(x, gate);
-            return looked ^ walk(x - a, gate);
+            int led = isOf(LED) ? Math.max(nerve, ahead) : nerve;
+            return isOf(THROWN) ? led + behind / 2 : led;
         }
     }
 
-    private static class Blind extends Comer {
-        Blind(int number, int a, int pace, int load) {
-            super(number, a, pace, load);
+    // ---- MOVES, and THE TRACE that they leave
+
+    private static final class Moves {
+        private static final int WALKS = 0;
+        private static final int LOOKS = 1;
+        private static final int STOPS = 2;
+        private static final int MANY = 3;
+        // which body each KIND has of its own to walk, look and stop; 0: none
+        private static final int[] BODIES = {
+            10, 11, 12,
+            0, 20, 0,
+            30, 0, 0,
+            40, 0, 0,
+            51, 0, 50,
+            0, 0, 60,
+            70, 71, 0
+        };
+        // a stop goes through six bodies at most
+        private static final int DEEPEST = 12;
+
+        final int[] kept = new int[MOST_TRACE];
+        int ran = 0;
+        private Comer one = null;
+
+        /** The answer of a move; 0, and no TRACE, for nobody or no such move. */
+        int start(Comer comer, int move, int x) {
+            ran = 0;
+            one = comer;
+            return comer == null || !within(move, WALKS, STOPS) ? 0 : run(this, comer.kind, move, x, 0);
         }
 
-        int kind() {
-            return BLIND;
+        /** The body of the KIND from, or of the next one above that has one. */
+        private static int run(Moves moves, int from, int move, int x, int depth) {
+            Comer one = moves.one;
+            int kind = withBody(from, move);
+            if (one == null || kind == NONE || depth > DEEPEST) {
+                return 0;
+            }
+            int body = bodyOf(kind, move);
+            moves.began(body);
+            int up = Comer.above(kind);
+            switch (body) {
+                case 10:
+                    return x + one.number;
+                case 11:
+                    return run(moves, one.kind, WALKS, x, depth + 1) * 2;
+                case 12:
+                    int looked = run(moves, one.kind, LOOKS, x, depth + 1);
+                    return looked ^ run(moves, one.kind, WALKS, x - one.a, depth + 1);
+                case 20:
+                    return run(moves, up, LOOKS, x, depth + 1) + one.a;
+                case 30:
+                    return run(moves, up, WALKS, x, depth + 1) * 3;
+                case 40:
+                    return run(moves, up, WALKS, x + 1, depth + 1);
+                case 50:
+                    return -run(moves, up, STOPS, x, depth + 1);
+                case 51:
+                    return run(moves, up, WALKS, x, depth + 1) - one.number;
+                case 60:
+                    return run(moves, up, STOPS, x, depth + 1) ^ 5;
+                case 70:
+                    return run(moves, up, WALKS, x, depth + 1) * 2;
+                case 71:
+                    return run(moves, up, LOOKS, x - one.a, depth + 1);
+                default:
+                    return 0;
+            }
         }
 
-        int step() {
-            return 0;
+        private static int withBody(int from, int move) {
+            int kind = from;
+            for (int up = 0; up < BODIES.length && kind != NONE && bodyOf(kind, move) == 0; up++) {
+                kind = Comer.above(kind);
+            }
+            return kind;
         }
 
-        int burden(int fog) {
-            return 2 * load;
+        private static int bodyOf(int kind, int move) {
+            int i = MANY * kind + move;
+            return i < 0 || i >= BODIES.length ? 0 : BODIES[i];
         }
 
-        int look(int x, TollForHesitators gate) {
-            gate.began(20);
-            return super.look(x, gate) + a;
-        }
-    }
-
-    private static final class Runner extends Blind {
-        Runner(int number, int a, int pace, int load) {
-            super(number, a, pace, load);
+        private void began(int body) {
+            if (ran >= 0 && ran < kept.length) {
+                kept[ran] = body;
+            }
+            ran++;
         }
 
-        int kind() {
-            return RUNNER;
-        }
-
-        int looksOn(int way) {
-            return 1;
-        }
-
-        int step() {
-            return a;
-        }
-
-        int walk(int x, TollForHesitators gate) {
-            gate.began(70);
-            return super.walk(x, gate) * 2;
-        }
-
-        int look(int x, TollForHesitators gate) {
-            gate.began(71);
-            return super.look(x - a, gate);
-        }
-    }
-
-    private static class Led extends Comer {
-        Led(int number, int a, int pace, int load) {
-            super(number, a, pace, load);
-        }
-
-        int kind() {
-            return LED;
-        }
-
-        int courage(int nerve, int ahead, int behind) {
-            return ahead > nerve ? ahead : nerve;
-        }
-
-        int walk(int x, TollForHesitators gate) {
-            gate.began(30);
-            return super.walk(x, gate) * 3;
-        }
-    }
-
-    private static final class Thrown extends Led {
-        Thrown(int number, int a, int pace, int load) {
-            super(number, a, pace, load);
-        }
-
-        int kind() {
-            return THROWN;
-        }
-
-        int courage(int nerve, int ahead, int behind) {
-            return super.courage(nerve, ahead, behind) + behind / 2;
-        }
-
-        int walk(int x, TollForHesitators gate) {
-            gate.began(40);
-            return super.walk(x + 1, gate);
-        }
-    }
-
-    private static class Doubter extends Comer {
-        Doubter(int number, int a, int pace, int load) {
-            super(number, a, pace, load);
-        }
-
-        int kind() {
-            return DOUBTER;
-        }
-
-        int step() {
-            return 2;
-        }
-
-        int stop(int x, TollForHesitators gate) {
-            gate.began(50);
-            return -super.stop(x, gate);
-        }
-
-        int walk(int x, TollForHesitators gate) {
-            gate.began(51);
-            return super.walk(x, gate) - number;
-        }
-    }
-
-    private static final class Stander extends Doubter {
-        Stander(int number, int a, int pace, int load) {
-            super(number, a, pace, load);
-        }
-
-        int kind() {
-            return STANDER;
-        }
-
-        int step() {
-            return super.step() + a;
-        }
-
-        int stop(int x, TollForHesitators gate) {
-            gate.began(60);
-            return super.stop(x, gate) ^ 5;
+        int keptAt(int i) {
+            return i < 0 || i >= ran || i >= kept.length ? NONE : kept[i];
         }
     }
 
@@ -976,30 +904,11 @@ public final class TollForHesitators {
             if (count < 0 || count >= MOST_COMERS) {
                 return;
             }
-            comers[count] = make(kind, count, a, pace, load);
+            comers[count] = new Comer(count, kind, a, pace, load);
             nerve[count] = newNerve;
             purse[count] = newPurse;
             doubt[count] = 0;
             count++;
-        }
-
-        private static Comer make(int kind, int number, int a, int pace, int load) {
-            switch (kind) {
-                case BLIND:
-                    return new Blind(number, a, pace, load);
-                case LED:
-                    return new Led(number, a, pace, load);
-                case THROWN:
-                    return new Thrown(number, a, pace, load);
-                case DOUBTER:
-                    return new Doubter(number, a, pace, load);
-                case STANDER:
-                    return new Stander(number, a, pace, load);
-                case RUNNER:
-                    return new Runner(number, a, pace, load);
-                default:
-                    return new Comer(number, a, pace, load);
-            }
         }
 
         void become(Road other) {

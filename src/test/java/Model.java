@@ -580,39 +580,49 @@ final class Model {
         return was;
     }
 
-    // ---- moves: bodies by KIND and move (0 walks, 1 looks, 2 stops), 0 for none
+    // ---- moves: here the machine's own super finds the bodies
 
-    private static final int[][] BODY = {
-        {10, 11, 12}, {0, 20, 0}, {30, 0, 0}, {40, 0, 0}, {51, 0, 50}, {0, 0, 60}, {70, 71, 0}
-    };
+    private class Plain {
+        int m, k;
+        int walks(int x) { trace.add(10); return x + m; }
+        int looks(int x) { trace.add(11); return walks(x) * 2; }
+        int stops(int x) { trace.add(12); return looks(x) ^ walks(x - k); }
+    }
 
-    private int call(int kind, int from, int move, int m, int k, int x) {
-        int of = from;
-        while (BODY[of][move] == 0) of = ABOVE[of];
-        trace.add(BODY[of][move]);
-        switch (BODY[of][move]) {
-            case 10: return x + m;
-            case 11: return call(kind, kind, 0, m, k, x) * 2;
-            case 12: {
-                int looked = call(kind, kind, 1, m, k, x);
-                return looked ^ call(kind, kind, 0, m, k, x - k);
-            }
-            case 20: return call(kind, ABOVE[of], 1, m, k, x) + k;
-            case 30: return call(kind, ABOVE[of], 0, m, k, x) * 3;
-            case 40: return call(kind, ABOVE[of], 0, m, k, x + 1);
-            case 50: return -call(kind, ABOVE[of], 2, m, k, x);
-            case 51: return call(kind, ABOVE[of], 0, m, k, x) - m;
-            case 60: return call(kind, ABOVE[of], 2, m, k, x) ^ 5;
-            case 70: return call(kind, ABOVE[of], 0, m, k, x) * 2;
-            default: return call(kind, ABOVE[of], 1, m, k, x - k);
-        }
+    private class Blind extends Plain {
+        @Override int looks(int x) { trace.add(20); return super.looks(x) + k; }
+    }
+
+    private class Led extends Plain {
+        @Override int walks(int x) { trace.add(30); return super.walks(x) * 3; }
+    }
+
+    private class Thrown extends Led {
+        @Override int walks(int x) { trace.add(40); return super.walks(x + 1); }
+    }
+
+    private class Doubter extends Plain {
+        @Override int stops(int x) { trace.add(50); return -super.stops(x); }
+        @Override int walks(int x) { trace.add(51); return super.walks(x) - m; }
+    }
+
+    private class Stander extends Doubter {
+        @Override int stops(int x) { trace.add(60); return super.stops(x) ^ 5; }
+    }
+
+    private class Runner extends Blind {
+        @Override int walks(int x) { trace.add(70); return super.walks(x) * 2; }
+        @Override int looks(int x) { trace.add(71); return super.looks(x - k); }
     }
 
     int act(int comer, int move, int x) {
         trace.clear();
         if (!is(comer) || move < 0 || move > 2) return 0;
-        One o = w.ones.get(comer);
-        return call(o.kind, o.kind, move, comer, o.a, x);
+        Plain[] kinds = {new Plain(), new Blind(), new Led(), new Thrown(), new Doubter(), new Stander(), new Runner()};
+        Plain one = kinds[w.ones.get(comer).kind];
+        one.m = comer;
+        one.k = w.ones.get(comer).a;
+        return move == 0 ? one.walks(x) : move == 1 ? one.looks(x) : one.stops(x);
     }
 
     int trace(int i) { return i < 0 || i >= 20 || i >= trace.size() ? -1 : trace.get(i); }
