@@ -763,13 +763,19 @@ public final class TollForHesitators {
         }
 
         int burden(int fog) {
-            return isOf(BLIND) ? 2 * load : fog + load;
+            return kind == BLIND || kind == RUNNER ? 2 * load : fog + load;
         }
 
         /** ahead, behind: the NERVES of those just there; 0 for nobody. */
         int courage(int nerve, int ahead, int behind) {
-            int led = isOf(LED) ? Math.max(nerve, ahead) : nerve;
-            return isOf(THROWN) ? led + behind / 2 : led;
+            switch (kind) {
+                case LED:
+                    return Math.max(nerve, ahead);
+                case THROWN:
+                    return Math.max(nerve, ahead) + behind / 2;
+                default:
+                    return nerve;
+            }
         }
     }
 
@@ -1347,24 +1353,36 @@ public final class TollForHesitators {
         }
 
         private boolean settingItem(int first, Road over) {
-            boolean stands;
+            int least = first == 'f' ? 0 : 1;
+            if (!numeral(least, mostOf(first))) {
+                return false;
+            }
             switch (first) {
                 case 'w':
-                    stands = numeral(1, MOST_WAY);
                     over.way = number;
-                    return stands;
+                    break;
                 case 'f':
-                    stands = numeral(0, MOST_FOG);
                     over.fog = number;
-                    return stands;
+                    break;
                 case 't':
-                    stands = numeral(1, MOST_TOLL);
                     over.toll = number;
-                    return stands;
+                    break;
                 default:
-                    stands = numeral(1, MOST_PUSH);
                     over.push = number;
-                    return stands;
+            }
+            return true;
+        }
+
+        private static int mostOf(int first) {
+            switch (first) {
+                case 'w':
+                    return MOST_WAY;
+                case 'f':
+                    return MOST_FOG;
+                case 't':
+                    return MOST_TOLL;
+                default:
+                    return MOST_PUSH;
             }
         }
 
