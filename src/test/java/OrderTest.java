@@ -277,6 +277,9 @@ public final class OrderTest {
         // by numbers, whatever ORDER was told ahead
         of(x, row(1, 0), 1, 1, 0, 5, 2, 0);
         pushed(x, 2, 2);
+        x.tell(0, 0, 0);
+        of(x, row(1), 0, 1, 0, 5, 2, 0);
+        pushed(x, 3, 4);
         // just ahead of one LED, pushed or not
         x = new TollForHesitators();
         x.comer(0, 0, 0, 8, 0, 0);

@@ -118,6 +118,15 @@ public final class RoadTest {
         DUE.is("one ITEM", read(x, "way 20"), 1);
         DUE.is("WAY", x.status(1), 20);
         DUE.is("fault()", x.fault(), -1);
+        settings(x, 20, 0, 5, 1);
+        read(x, "push 7");
+        settings(x, 20, 0, 5, 7);
+        read(x, "toll 6");
+        settings(x, 20, 0, 6, 7);
+        read(x, "fog 3");
+        settings(x, 20, 3, 6, 7);
+        read(x, "way 2");
+        settings(x, 2, 3, 6, 7);
         DUE.is("five ITEMS", read(x, "fog 9;toll 99;push 98;way 01;fog 00"), 5);
         DUE.is("WAY", x.status(1), 1);
         DUE.is("FOG, the later one", x.status(2), 0);
@@ -145,6 +154,13 @@ public final class RoadTest {
         DUE.is("TOLL, PUSH", 100 * x.status(3) + x.status(4), 9999);
         DUE.is("DOUBT", x.comerOf(3, 6), 30);
         DUE.is("nothing refused", x.status(16), 0);
+    }
+
+    private static void settings(TollForHesitators x, int way, int fog, int toll, int push) {
+        DUE.is("WAY", x.status(1), way);
+        DUE.is("FOG", x.status(2), fog);
+        DUE.is("TOLL", x.status(3), toll);
+        DUE.is("PUSH", x.status(4), push);
     }
 
     private static void fault(String text, int place) {
