@@ -3,18 +3,7 @@ public final class DayTest {
     private static final Due DUE = new Due("DayTest");
 
     public static void main(String[] args) {
-        judge();
-        judgeBehind();
-        judgeNone();
-        behind();
-        done();
-        doneBounds();
-        refusals();
-        days();
-        daysInTruth();
-        daysRefusals();
-        seed();
-        DUE.end();
+        Suite.run(DayTest.class, DUE);
     }
 
     private static void judged(TollForHesitators x, int wrong, long... told) {
@@ -22,6 +11,7 @@ public final class DayTest {
         DUE.is("judge " + java.util.Arrays.toString(told), x.judge(7, told.length), wrong);
     }
 
+    @Promise(27)
     private static void judge() {
         TollForHesitators x = new TollForHesitators();
         judged(x, -1);
@@ -62,6 +52,7 @@ public final class DayTest {
         DUE.is("nothing is refused", x.status(16), 0);
     }
 
+    @Promise(27)
     private static void judgeBehind() {
         TollForHesitators x = new TollForHesitators();
         // THROWN goes freely if 1, 2 or 3 is just behind him
@@ -116,6 +107,7 @@ public final class DayTest {
         judged(x, -1, 22, 10, 0);
     }
 
+    @Promise(27)
     private static void judgeNone() {
         TollForHesitators x = new TollForHesitators();
         for (int c = 0; c < 7; c++) {
@@ -137,6 +129,7 @@ public final class DayTest {
         DUE.is("judge -16", x.judge(1, 8), -16);
     }
 
+    @Promise(28)
     private static void behind() {
         TollForHesitators x = new TollForHesitators();
         x.comer(0, 0, 0, 8, 0, 5);
@@ -156,6 +149,7 @@ public final class DayTest {
         DUE.is("nothing is changed", x.comerOf(0, 5) + x.status(5), 5);
     }
 
+    @Promise(29)
     private static void done() {
         TollForHesitators x = new TollForHesitators();
         x.comer(0, 0, 0, 8, 0, 12);
@@ -189,6 +183,7 @@ public final class DayTest {
         DUE.is("refused -6", x.status(16), 1);
     }
 
+    @Promise(29)
     private static void doneBounds() {
         TollForHesitators x = new TollForHesitators();
         x.comer(0, 0, 30, 8, 0, 0);
@@ -208,6 +203,7 @@ public final class DayTest {
         DUE.is("DOUBT 0 at least", x.comerOf(2, 6), 0);
     }
 
+    @Promise({27, 28, 29})
     private static void refusals() {
         TollForHesitators x = new TollForHesitators();
         x.comer(0, 0, 9, 8, 0, 0);
@@ -246,6 +242,7 @@ public final class DayTest {
         DUE.is("no DAY has gone by", x.status(5), 0);
     }
 
+    @Promise(30)
     private static void days() {
         TollForHesitators x = new TollForHesitators();
         // BLIND, and never slow; the FOGS drawn from SEED 1 are 8, 6, 3, 3, 9, 5
@@ -267,6 +264,7 @@ public final class DayTest {
         DUE.is("DAYS", x.status(5), 71);
     }
 
+    @Promise(30)
     private static void daysInTruth() {
         TollForHesitators x = new TollForHesitators();
         // one look: slows if FOG, DOUBT and 1 are above NERVE
@@ -302,6 +300,7 @@ public final class DayTest {
         DUE.is("DOUBT of 1", x.comerOf(1, 6), 2);
     }
 
+    @Promise(30)
     private static void daysRefusals() {
         TollForHesitators x = new TollForHesitators();
         DUE.is("days -5", x.days(1), -5);
@@ -317,6 +316,7 @@ public final class DayTest {
         DUE.is("no DRAW was made", x.status(8), 1);
     }
 
+    @Promise(31)
     private static void seed() {
         TollForHesitators x = new TollForHesitators();
         DUE.is("SEED at first", x.seed(Integer.MIN_VALUE), 1);

@@ -1,11 +1,21 @@
 /** Counts the answers that are as due and prints those that are not. */
 final class Due {
     private final String name;
+    private String about = "";
     private int good = 0;
     private int wrong = 0;
 
     Due(String name) {
         this.name = name;
+    }
+
+    /** Which test asks from now on. */
+    void about(String test) {
+        about = test.isEmpty() ? "" : test + ": ";
+    }
+
+    int asked() {
+        return good + wrong;
     }
 
     void is(String call, long got, long want) {
@@ -15,7 +25,7 @@ final class Due {
         }
         wrong++;
         if (wrong <= 20) {
-            System.out.println(name + ": " + call + " answered " + got + ", due is " + want);
+            System.out.println(name + ": " + about + call + " answered " + got + ", due is " + want);
         }
     }
 

@@ -83,7 +83,7 @@ public final class LanguageTest {
                 DUE.holds("parameters of " + m, m.getParameterCount() <= 7);
                 boolean ofTheFace = c == TollForHesitators.class && Modifier.isPublic(m.getModifiers());
                 DUE.holds("the name of " + m, ofTheFace || !names.contains(m.getName()));
-                DUE.holds(m + " is none of the machine's making", !m.isSynthetic());
+                DUE.holds(m + " is no lambda", !m.getName().startsWith("lambda$"));
             }
         }
     }
@@ -92,15 +92,18 @@ public final class LanguageTest {
         String bare = text.replaceAll("(?s)/\\*.*?\\*/", "").replaceAll("//[^\n]*", "")
                 .replaceAll("\"[^\"\n]*\"", "\"\"").replaceAll("'[^'\n]'", "' '");
         String[] never = {
-            "throw", "throws", "try", "catch", "finally", "synchronized", "assert", "import", "package", "equals",
-            "hashCode", "toString", "Object", "System.out", "double", "float", "native", "volatile", "transient"
+            "throw", "throws", "try", "catch", "finally", "synchronized", "assert", "package", "hashCode", "Object",
+            "System.out", "System.err", "currentTimeMillis", "nanoTime", "Random", "Thread", "native"
         };
         for (String word : never) {
             Matcher m = Pattern.compile("\\b" + Pattern.quote(word) + "\\b").matcher(bare);
             DUE.holds("no '" + word + "'", !m.find());
         }
-        for (String sign : new String[] {"->", "::", "@", "<>"}) {
-            DUE.holds("no '" + sign + "'", !bare.contains(sign));
+        DUE.holds("no '::'", !bare.contains("::"));
+        for (String line : bare.split("\n")) {
+            DUE.holds("no lambda in '" + line + "'", !line.contains("->") || line.matches("\\s*(case|default)\\b.*"));
+            DUE.holds("a library that may be: '" + line + "'", !line.startsWith("import ")
+                    || line.matches("import java\\.util\\.(ArrayList|List|Arrays|Iterator);"));
         }
         for (char c : text.toCharArray()) {
             if (c > 126) {
@@ -125,6 +128,6 @@ public final class LanguageTest {
             methods++;
             DUE.holds("the method from line " + (i + 1) + " is short", end - i < 60);
         }
-        DUE.holds("methods were found: " + methods, methods > 100);
+        DUE.holds("methods were found: " + methods, methods > 36);
     }
 }

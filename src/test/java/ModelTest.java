@@ -1,7 +1,10 @@
 /** Long runs of calls that look like chance, each answer held against the plain Model's. */
 public final class ModelTest {
-    private static final int RUNS = 1500;
-    private static final int CALLS = 500;
+    private static final int RUNS = 2000;
+    private static final int CALLS = 512;
+    // how many of them whole() and a long step take
+    private static final int WHOLE = 80;
+    private static final int STEP = 60;
 
     private final Due due;
     private final int run;
@@ -70,10 +73,11 @@ public final class ModelTest {
         for (int i = 0; i < first; i++) {
             comer();
         }
-        while (calls < CALLS - 60 && !due.failed()) {
+        while (calls < CALLS - WHOLE - STEP && !due.failed()) {
             step();
         }
         whole();
+        due.holds("run " + run + " has no more calls than an object answers", calls <= CALLS);
     }
 
     private void step() {
@@ -212,7 +216,7 @@ public final class ModelTest {
             text.setLength(below(text.length()));
         }
         int s = about(0, 7);
-        if (calls + text.length() > CALLS - 80) {
+        if (calls + text.length() > CALLS - WHOLE) {
             return;
         }
         row(s, about(0, 3), text.length());
@@ -256,7 +260,7 @@ public final class ModelTest {
         int s = about(0, 7);
         int c = someone();
         int n = below(seldom() ? 45 : 4);
-        if (calls + 2 * n > CALLS - 80) {
+        if (calls + 2 * n > CALLS - WHOLE) {
             return;
         }
         row(s, about(0, 3), seldom() ? 2 * n + 1 : Math.min(160, 2 * n));

@@ -3,15 +3,7 @@ public final class MoveTest {
     private static final Due DUE = new Due("MoveTest");
 
     public static void main(String[] args) {
-        actByKinds();
-        actWraps();
-        actNone();
-        image();
-        imageKeepsAll();
-        imageLeavesTheRest();
-        restoreShelves();
-        status();
-        DUE.end();
+        Suite.run(MoveTest.class, DUE);
     }
 
     private static void acted(TollForHesitators x, int comer, int move, int v, int due, int... bodies) {
@@ -25,6 +17,7 @@ public final class MoveTest {
         DUE.is("trace ahead of " + call, x.trace(-1), -1);
     }
 
+    @Promise({32, 33})
     private static void actByKinds() {
         TollForHesitators x = new TollForHesitators();
         for (int kind = 0; kind <= 6; kind++) {
@@ -60,6 +53,7 @@ public final class MoveTest {
         }
     }
 
+    @Promise({32, 33})
     private static void actWraps() {
         int most = Integer.MAX_VALUE;
         int least = Integer.MIN_VALUE;
@@ -75,6 +69,7 @@ public final class MoveTest {
         acted(x, 6, 1, least, (least - 9 + 6) * 4 + 9, 71, 20, 11, 70, 10);
     }
 
+    @Promise({32, 33})
     private static void actNone() {
         TollForHesitators x = new TollForHesitators();
         x.comer(3, 3, 0, 1, 0, 0);
@@ -94,6 +89,7 @@ public final class MoveTest {
         }
     }
 
+    @Promise({34, 35})
     private static void image() {
         TollForHesitators x = new TollForHesitators();
         DUE.is("restore -6", x.restore(), -6);
@@ -129,6 +125,7 @@ public final class MoveTest {
         }
     }
 
+    @Promise({34, 35})
     private static void imageKeepsAll() {
         TollForHesitators x = new TollForHesitators();
         for (int c = 0; c < 5; c++) {
@@ -169,6 +166,7 @@ public final class MoveTest {
         DUE.holds("that isn't the first", third[5] != first[5] && second[0] == 6);
     }
 
+    @Promise({34, 35})
     private static void imageLeavesTheRest() {
         TollForHesitators x = new TollForHesitators();
         x.comer(3, 3, 0, 1, 0, 0);
@@ -187,6 +185,7 @@ public final class MoveTest {
         DUE.is("their elements too", x.element(0, 0), 1);
     }
 
+    @Promise(35)
     private static void restoreShelves() {
         TollForHesitators x = new TollForHesitators();
         x.comer(0, 0, 4, 1, 0, 0);
@@ -219,6 +218,7 @@ public final class MoveTest {
         DUE.is("holds(1)", x.holds(1), -1);
     }
 
+    @Promise(36)
     private static void status() {
         TollForHesitators x = new TollForHesitators();
         x.comer(0, 0, 7, 1, 0, 100);

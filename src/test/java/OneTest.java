@@ -3,21 +3,10 @@ public final class OneTest {
     private static final Due DUE = new Due("OneTest");
 
     public static void main(String[] args) {
-        looks();
-        slow();
-        slowByKinds();
-        brave();
-        practise();
-        fits();
-        fitsRefusals();
-        next();
-        leader();
-        leaderKinds();
-        rest();
-        painted();
-        DUE.end();
+        Suite.run(OneTest.class, DUE);
     }
 
+    @Promise(15)
     private static void looks() {
         TollForHesitators x = new TollForHesitators();
         int[] step = {1, 0, 1, 1, 2, 9, 7};
@@ -65,6 +54,7 @@ public final class OneTest {
         DUE.is("BURDEN, 9 at LOAD", x.looks(0, 2), 18);
     }
 
+    @Promise(16)
     private static void slow() {
         TollForHesitators x = new TollForHesitators();
         // four looks; FOG and 2 and k above 10
@@ -100,6 +90,7 @@ public final class OneTest {
         DUE.is("counted as -6", x.status(16), 2);
     }
 
+    @Promise(16)
     private static void slowByKinds() {
         TollForHesitators x = new TollForHesitators();
         x.comer(1, 9, 6, 1, 3, 0);
@@ -125,6 +116,7 @@ public final class OneTest {
         DUE.is("in FOG", x.slow(5, 1), 4);
     }
 
+    @Promise(17)
     private static void brave() {
         TollForHesitators x = new TollForHesitators();
         DUE.is("nobody", x.brave(-1), 0);
@@ -156,6 +148,7 @@ public final class OneTest {
         DUE.is("the sum at " + c, x.practise(0, c, 1), sum);
     }
 
+    @Promise(21)
     private static void practise() {
         TollForHesitators x = new TollForHesitators();
         // slows in five FOGS, one fewer for each time
@@ -217,6 +210,7 @@ public final class OneTest {
         return bits;
     }
 
+    @Promise(22)
     private static void fits() {
         TollForHesitators x = new TollForHesitators();
         // slows with a NERVE below FOG and 6
@@ -253,6 +247,7 @@ public final class OneTest {
         DUE.is("another one", x.fits(3, 1, 1), nerves(0, 9));
     }
 
+    @Promise({22, 23})
     private static void fitsRefusals() {
         TollForHesitators x = new TollForHesitators();
         x.comer(0, 0, 0, 2, 2, 0);
@@ -290,6 +285,7 @@ public final class OneTest {
         }
     }
 
+    @Promise(23)
     private static void next() {
         TollForHesitators x = new TollForHesitators();
         // slows with a NERVE below FOG and 6
@@ -321,6 +317,7 @@ public final class OneTest {
         DUE.is("nothing refused", x.status(11) + x.status(16), 0);
     }
 
+    @Promise(24)
     private static void leader() {
         TollForHesitators x = new TollForHesitators();
         DUE.is("nobody", x.leader(0), -11);
@@ -351,6 +348,7 @@ public final class OneTest {
         DUE.is("led by the first", x.leader(1), 0);
     }
 
+    @Promise(24)
     private static void leaderKinds() {
         TollForHesitators x = new TollForHesitators();
         // LED, of eight looks
@@ -395,6 +393,7 @@ public final class OneTest {
         DUE.is("the second is one too many, behind the first who goes freely", x.leader(3), 1);
     }
 
+    @Promise(25)
     private static void rest() {
         TollForHesitators x = new TollForHesitators();
         int[][] due = {{2, 1000}, {4, 1000}, {5, 1000}, {6, 833}, {7, 714}, {10, 500}, {998, 5}, {999, 5}};
@@ -414,6 +413,7 @@ public final class OneTest {
         DUE.is("refused -6", x.status(16), 4);
     }
 
+    @Promise(26)
     private static void painted() {
         TollForHesitators x = new TollForHesitators();
         int[][] due = {

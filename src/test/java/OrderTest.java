@@ -3,16 +3,7 @@ public final class OrderTest {
     private static final Due DUE = new Due("OrderTest");
 
     public static void main(String[] args) {
-        orderSeen();
-        orderKinds();
-        orderOfSeven();
-        orderRefusals();
-        best();
-        bestTies();
-        bestOfSeven();
-        pushes();
-        pushesOfSeven();
-        DUE.end();
+        Suite.run(OrderTest.class, DUE);
     }
 
     /** What comes of the ORDER: freely, pay, BACK, what is paid, who pays, who turns BACK. */
@@ -27,6 +18,7 @@ public final class OrderTest {
         return members;
     }
 
+    @Promise(18)
     private static void orderSeen() {
         TollForHesitators x = new TollForHesitators();
         of(x, row(), 0, 0, 0, 0, 0, 0);
@@ -67,6 +59,7 @@ public final class OrderTest {
         DUE.is("nor the DAYS", x.status(5), 0);
     }
 
+    @Promise(18)
     private static void orderKinds() {
         TollForHesitators x = new TollForHesitators();
         // one look each; the LED one bears 1, behind whoever has it
@@ -110,6 +103,7 @@ public final class OrderTest {
         of(x, row(4, 3), 1, 0, 1, 0, 0, 16);
     }
 
+    @Promise(18)
     private static void orderOfSeven() {
         TollForHesitators x = new TollForHesitators();
         for (int c = 0; c < 7; c++) {
@@ -127,6 +121,7 @@ public final class OrderTest {
         of(x, row(6, 0, 5, 1, 4, 2, 3), 0, 0, 7, 0, 0, 127);
     }
 
+    @Promise(18)
     private static void orderRefusals() {
         TollForHesitators x = new TollForHesitators();
         x.comer(0, 0, 9, 8, 0, 0);
@@ -170,6 +165,7 @@ public final class OrderTest {
         }
     }
 
+    @Promise(19)
     private static void best() {
         TollForHesitators x = new TollForHesitators();
         isBest(x, 0, 0);
@@ -189,6 +185,7 @@ public final class OrderTest {
         DUE.is("nothing is changed", x.comerOf(0, 5), 5);
     }
 
+    @Promise(19)
     private static void bestTies() {
         TollForHesitators x = new TollForHesitators();
         // one strong, and two LED of whom just one can be led: the one who can't pay
@@ -221,6 +218,7 @@ public final class OrderTest {
         isBest(x, 198, 0, 3, 0, 1, 2);
     }
 
+    @Promise(19)
     private static void bestOfSeven() {
         TollForHesitators x = new TollForHesitators();
         for (int c = 0; c < 7; c++) {
@@ -248,6 +246,7 @@ public final class OrderTest {
         DUE.is("pushes(1)", x.pushes(1), sum);
     }
 
+    @Promise(20)
     private static void pushes() {
         TollForHesitators x = new TollForHesitators();
         pushed(x, 0, 0);
@@ -297,6 +296,7 @@ public final class OrderTest {
         DUE.is("nothing is changed", x.comerOf(1, 5), 5);
     }
 
+    @Promise(20)
     private static void pushesOfSeven() {
         TollForHesitators x = new TollForHesitators();
         for (int c = 0; c < 7; c++) {

