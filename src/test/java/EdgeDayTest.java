@@ -150,6 +150,15 @@ public final class EdgeDayTest {
             judged(x, 0, 0, n);
             judged(x, 1, 1, n);
         }
+        // no COMER 0 by an element just below 0
+        TollForHesitators y = fresh();
+        y.comer(1, 0, 30, 8, 0, 0);
+        y.comer(3, 0, 0, 8, 0, 5);
+        judged(y, -1, 10, 0);
+        for (int below = -1; below >= -12; below--) {
+            judged(y, 0, 10, below);
+            judged(y, 1, 11, below);
+        }
         // himself, with his own NERVE
         x.tell(0, 0, 0);
         judged(x, 0, 0, 0);

@@ -150,6 +150,12 @@ public final class EdgeMoveTest {
             DUE.is("no TRACE", x.trace(0), -1);
         }
         acted(x, 0, 0, 7, 24, 40, 30, 10);
+        x = ofSeven(3);
+        for (int c = 0; c <= 6; c++) {
+            acted(x, c, -1, 7, 0);
+            acted(x, c, 3, 7, 0);
+            acted(x, c, -3, 7, 0);
+        }
         for (int what = 11; what <= 17; what++) {
             DUE.is("nothing is refused", x.status(what), 0);
         }
@@ -328,6 +334,14 @@ public final class EdgeMoveTest {
         // shown NOTHING stays so when one of that number comes again
         x.comer(0, 0, 1, 1, 0, 0);
         DUE.is("holds(3)", x.holds(3), -1);
+        // on the first and the last SHELF
+        x.show(0, 3);
+        x.show(7, 3);
+        x.show(1, 2);
+        DUE.is("restore()", x.restore(), 3);
+        DUE.is("holds(0)", x.holds(0), -1);
+        DUE.is("holds(7)", x.holds(7), -1);
+        DUE.is("holds(1)", x.holds(1), 2);
         // more COMERS in THE IMAGE than there were: SHELVES are not changed
         TollForHesitators y = fresh();
         y.comer(6, 0, 1, 1, 7, 0);

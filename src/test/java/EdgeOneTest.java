@@ -579,7 +579,17 @@ public final class EdgeOneTest {
         x = one(0, 0, 0, 8, 9);
         x.row(0, 2, 0);
         DUE.is("of all, with LOAD 9", x.next(0, 0, 0), 5);
+        // not from 0 on
+        x = one(0, 0, 0, 8, 0);
+        Due.fill(x, 0, 2, 8, 1, 2, 0);
+        DUE.is("of 3 to 8: three or three", x.next(0, 2, 0), 5);
+        Due.fill(x, 0, 2, 9, 1, 4, 0);
+        DUE.is("of 5 to 9: two or three", x.next(0, 2, 0), 6);
+        x.tell(0, 2, 9);
+        DUE.is("with DOUBT 9, of 14 to 18: two or three", x.next(0, 2, 0), 6);
         // with LOAD 9 and DOUBT 9: already FOG 0 leaves most to those who SLOW
+        x = one(0, 0, 0, 8, 9);
+        x.row(0, 2, 0);
         x.tell(0, 2, 9);
         DUE.is("of all, with DOUBT 9 too", x.next(0, 0, 0), 0);
     }
@@ -657,6 +667,24 @@ public final class EdgeOneTest {
         DUE.is("the second goes freely", x.leader(0), 2);
         x.ask(1, 1);
         DUE.is("in FOG he SLOWS whoever leads", x.leader(0), 1);
+    }
+
+    @Promise(24)
+    private static void leaderIsSeenOnce() {
+        // bears his only look and one SEEN: behind one who pays he goes on as well
+        TollForHesitators x = one(0, 0, 2, 8, 0);
+        x.comer(1, 0, 0, 8, 9, 5);
+        x.comer(1, 0, 30, 8, 0, 0);
+        DUE.is("one SEEN is borne", x.leader(0), 1);
+        x.tell(0, 0, 1);
+        DUE.is("one SEEN is not", x.leader(0), 2);
+        // LEADERS see nobody: short by just one, he pays
+        x = one(0, 0, 1, 8, 0);
+        x.comer(0, 0, 0, 8, 0, 5);
+        x.comer(1, 0, 0, 8, 0, 0);
+        DUE.is("1 pays, 2 goes freely", x.leader(0), 2);
+        x.tell(1, 0, 1);
+        DUE.is("both go freely", x.leader(0), 1);
     }
 
     @Promise(value = 24, says = {"just those two coming (the LEADER first, as he'd be ALONE, but for who is behind him)",
@@ -781,5 +809,8 @@ public final class EdgeOneTest {
         // two thirds, and one third
         DUE.is("painted(500, 1, 500)", x.painted(500, 1, 500), 666);
         DUE.is("painted(333, 0, 0)", x.painted(333, 0, 0), 333);
+        // A: 23000 and B: 977000, 488500: 44.97 of 1000; A: 18000 and B: 982000, 98200: 154.9
+        DUE.is("painted(23, 1, 500)", x.painted(23, 1, 500), 44);
+        DUE.is("painted(18, 1, 100)", x.painted(18, 1, 100), 154);
     }
 }

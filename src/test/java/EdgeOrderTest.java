@@ -380,6 +380,64 @@ public final class EdgeOrderTest {
         isBest(x, 5 * 99, 0, "6012345");
     }
 
+    @Promise(value = 19, says = "BEST ORDER of all COMERS: by which fewest turn BACK, then least is paid")
+    private static void bestWhenAllTurnBackAndWhenAllPay() {
+        TollForHesitators x = fresh();
+        x.ask(2, 99);
+        for (int c = 0; c <= 6; c++) {
+            add(x, 1, 0, 9, 98);
+            isBest(x, 0, c + 1, "0123456".substring(0, c + 1));
+        }
+        x.tell(3, 1, 99);
+        isBest(x, 99, 6, "0123456");
+        for (int c = 0; c <= 6; c++) {
+            x.tell(c, 1, 99);
+        }
+        isBest(x, 693, 0, "0123456");
+    }
+
+    @Promise(value = 19, says = "BEST ORDER of all COMERS:")
+    private static void bestBySeen() {
+        // 0 pays; 1 and 2 bear nothing SEEN: one goes freely ahead of him, so that the other does behind him
+        TollForHesitators x = fresh();
+        add(x, 1, 0, 9, 99);
+        add(x, 0, 1, 0, 99);
+        add(x, 0, 1, 0, 99);
+        isBest(x, 5, 0, "102");
+        // 0 turns BACK, and isn't SEEN
+        x.tell(0, 1, 4);
+        isBest(x, 0, 1, "012");
+        // 0 is SEEN to pay, 1 to go freely whatever he sees: together nothing
+        x = fresh();
+        add(x, 1, 0, 9, 99);
+        add(x, 1, 30, 0, 0);
+        add(x, 0, 1, 0, 99);
+        isBest(x, 5, 0, "012");
+    }
+
+    @Promise(value = 19, says = "BEST ORDER of all COMERS:")
+    private static void bestLedAndThrown() {
+        // the first has most NERVE; of two LED the one who can't pay comes just behind him
+        TollForHesitators x = fresh();
+        add(x, 1, 1, 0, 0);
+        add(x, 2, 0, 0, 99);
+        add(x, 2, 0, 0, 4);
+        isBest(x, 5, 0, "021");
+        // the last has most NERVE; of two THROWN the one who can't pay comes just ahead of him
+        x = fresh();
+        add(x, 3, 0, 0, 4);
+        add(x, 3, 0, 0, 99);
+        add(x, 1, 2, 0, 0);
+        isBest(x, 0, 0, "021");
+        x.tell(1, 2, 30);
+        isBest(x, 5, 0, "021");
+        x.tell(0, 2, 1);
+        // just behind the last, whose NERVE of 2 is enough
+        isBest(x, 5, 0, "120");
+        x.tell(0, 2, 2);
+        isBest(x, 5, 1, "012");
+    }
+
     @Promise(value = 19, says = "of several the first by rows:")
     private static void bestTheFirstByRows() {
         TollForHesitators x = fresh();
@@ -485,6 +543,23 @@ public final class EdgeOrderTest {
         x.tell(0, 0, 18);
         pushed(x, 0, 5);
         DUE.is("nothing is changed", x.status(7), 7 * 99);
+    }
+
+    @Promise(value = {20, 30}, says = "who are pushed in ORDER by numbers")
+    private static void byNumbersWhateverWasToldAhead() {
+        TollForHesitators x = fresh();
+        add(x, 1, 0, 9, 99);
+        add(x, 0, 1, 0, 99);
+        add(x, 0, 1, 0, 99);
+        // 0 pays, 1 and 2 see it
+        of(x, "210", 2, 1, 0, 5, 1, 0);
+        pushed(x, 1, 1);
+        of(x, "2", 1, 0, 0, 0, 0, 0);
+        x.ask(3, 99);
+        pushed(x, 0, 15);
+        of(x, "21", 2, 0, 0, 0, 0, 0);
+        x.seed(0);
+        DUE.is("days(1) in a FOG of 0", x.days(1), 15);
     }
 
     @Promise(value = 20, says = "who are pushed in ORDER by numbers")

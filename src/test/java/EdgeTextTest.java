@@ -346,6 +346,19 @@ public final class EdgeTextTest {
         }
     }
 
+    @Promise(value = 13, says = {"way N;", "fog N;", "toll N;", "push N."})
+    private static void eachSettingIsToldAlone() {
+        String[] words = {"way 7", "fog 7", "toll 7", "push 7"};
+        int[] first = {8, 0, 5, 1};
+        for (int told = 0; told < 4; told++) {
+            TollForHesitators x = with(1);
+            stands(x, words[told], 1);
+            for (int what = 0; what < 4; what++) {
+                DUE.is("after " + words[told] + ": status(" + (1 + what) + ")", x.status(1 + what), what == told ? 7 : first[what]);
+            }
+        }
+    }
+
     @Promise(value = 13, says = "All is told over what there is, or nothing")
     private static void whatIsNotToldStaysAndTheLaterCounts() {
         TollForHesitators x = with(1);
