@@ -194,6 +194,22 @@ public final class EdgeDayTest {
         judged(x, 2, 1, 22, 10, 30);
     }
 
+    @Promise(value = 27, says = "Just ahead and just behind are by the ORDER, also of one who turns BACK.")
+    private static void judgeByOneWhoTurnsBack() {
+        // 0 turns BACK; 1, LED, and 2, THROWN, go freely by his NERVE alone
+        TollForHesitators x = fresh();
+        x.comer(1, 0, 9, 8, 9, 0);
+        x.comer(2, 0, 0, 8, 0, 5);
+        x.comer(3, 0, 0, 8, 0, 5);
+        judged(x, -1, 11);
+        judged(x, -1, 2, 10);
+        judged(x, 1, 2, 11);
+        judged(x, -1, 21);
+        judged(x, -1, 20, 2);
+        judged(x, 0, 21, 2);
+        judged(x, -1, 20, 2, 10);
+    }
+
     @Promise(value = 27, says = "or isn't so")
     private static void judgeWithJustEnough() {
         TollForHesitators x = with(2);
@@ -488,6 +504,22 @@ public final class EdgeDayTest {
         DUE.is("NERVE", x.comerOf(0, 2), 30);
         DUE.is("DOUBT", x.comerOf(0, 6), 0);
         DUE.is("PURSE", x.comerOf(0, 5), 999);
+    }
+
+    @Promise(value = 30, says = "DAYS by draws, n times: FOG becomes a DRAW below 10; all come in ORDER by numbers;")
+    private static void daysInTheFogThatIsDrawn() {
+        // SEED 1 draws FOGS of 8 and 6; one look, and a DOUBT of 1 after he has paid
+        TollForHesitators x = fresh();
+        x.comer(0, 0, 8, 8, 0, 99);
+        DUE.is("9 are above 8", x.days(1), 5);
+        DUE.is("8 are not", x.days(1), 0);
+        // SEED 0 draws FOGS of 0 and 6, whatever FOG it was
+        x = fresh();
+        x.seed(0);
+        x.ask(1, 9);
+        x.comer(0, 0, 1, 8, 0, 99);
+        DUE.is("1 is not above 1", x.days(1), 0);
+        DUE.is("7 are above 2", x.days(1), 5);
     }
 
     @Promise(value = 30, says = "all come in ORDER by numbers;")

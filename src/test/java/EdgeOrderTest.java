@@ -413,6 +413,13 @@ public final class EdgeOrderTest {
         add(x, 1, 30, 0, 0);
         add(x, 0, 1, 0, 99);
         isBest(x, 5, 0, "012");
+        // one who goes freely makes good for one who pays, not for two
+        x = fresh();
+        add(x, 1, 30, 0, 0);
+        add(x, 1, 0, 9, 99);
+        add(x, 1, 0, 9, 99);
+        add(x, 0, 1, 0, 99);
+        isBest(x, 10, 0, "0132");
     }
 
     @Promise(value = 19, says = "BEST ORDER of all COMERS:")
