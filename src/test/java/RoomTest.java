@@ -4,6 +4,10 @@ import java.lang.management.ManagementFactory;
 public final class RoomTest {
     private static final Due DUE = new Due("RoomTest");
     private static final int CALLS = 220;
+    // seven new COMERS, the most that a text can tell of, take less; no call makes more
+    private static final long MOST_BYTES = 400;
+    // SHELVES hold 160 longs each, the rest is small
+    private static final long MOST_OF_AN_OBJECT = 16_000;
 
     public static void main(String[] args) {
         com.sun.management.ThreadMXBean threads = (com.sun.management.ThreadMXBean) ManagementFactory.getThreadMXBean();
@@ -17,11 +21,19 @@ public final class RoomTest {
                 long bytes = threads.getCurrentThreadAllocatedBytes() - before;
                 // the first round also loads classes
                 if (round == 1) {
-                    DUE.holds("call " + call + " leaves " + bytes, bytes < CALLS * 20_000L);
+                    DUE.holds("call " + call + " leaves " + bytes, bytes < CALLS * MOST_BYTES);
                 }
             }
+            anObject(threads, round == 1);
         }
         DUE.end();
+    }
+
+    private static void anObject(com.sun.management.ThreadMXBean threads, boolean counts) {
+        long before = threads.getCurrentThreadAllocatedBytes();
+        TollForHesitators x = new TollForHesitators();
+        long bytes = threads.getCurrentThreadAllocatedBytes() - before;
+        DUE.holds("an object takes " + bytes, !counts || bytes < MOST_OF_AN_OBJECT && x.status(0) == 0);
     }
 
     private static TollForHesitators ready() {
