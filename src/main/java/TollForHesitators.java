@@ -1153,7 +1153,7 @@ public final class TollForHesitators {
             if (c < 0 || c >= trial.least.length || depth >= MOST_COMERS) {
                 return;
             }
-            boolean last = depth == trial.n - 1;
+            boolean last = depth == trial.n - 1 || depth + 1 >= trial.members.length;
             int ahead = trial.nerveAt(depth - 1);
             for (int b = 0; b < (last ? 1 : trial.n); b++) {
                 if (!last && (there >> b & 1) != 0) {
